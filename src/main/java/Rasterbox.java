@@ -14,7 +14,7 @@ public final class Rasterbox {
 
     private static final int REGISTERS_START = 3840;
     private static final int REGISTERS = 48;
-    /** Stands behind the addresses, for a write that makes every register 0. */
+    /** Stands behind the addresses in a frame's writes, and tells that every register became 0. */
     private static final int ALL_REGISTERS = 4096;
 
     private static final int BANKS = 0;
@@ -246,12 +246,12 @@ public final class Rasterbox {
 
     public int sample(int line) throws IndexOutOfBoundsException {
         checkIndex(line, LINES);
-        return line >= 0 && line < LINES ? machine.voices.samples[line] : 0;
+        return machine.voices.samples[line];
     }
 
     public int level(int voice) throws IndexOutOfBoundsException {
         checkIndex(voice, Voices.COUNT);
-        return voice >= 0 && voice < Voices.COUNT ? machine.voices.levels[voice] : 0;
+        return machine.voices.levels[voice];
     }
 
     public boolean key(int row, int column, boolean isDown) throws IndexOutOfBoundsException {
@@ -546,13 +546,15 @@ public final class Rasterbox {
 
         void put(int address, int value) {
             int number = address - REGISTERS_START;
-            if (address == ALL_REGISTERS) {
-                Arrays.fill(registers, 0);
-            } else if (number < 0 || number >= REGISTERS) {
+            if (number < 0 || number >= REGISTERS) {
                 ram[address & LAST_ADDRESS] = value & BYTE;
             } else if (MASKS[number] != 0) {
                 registers[number] = value & MASKS[number];
             }
+        }
+
+        void clearRegisters() {
+            Arrays.fill(registers, 0);
         }
 
         int scrollLeft() {
@@ -682,7 +684,12 @@ public final class Rasterbox {
                 if (writes[i] >> 21 > moment) {
                     return;
                 }
-                scene.put(writes[i] >> 8 & 8191, writes[i] & BYTE);
+                int address = writes[i] >> 8 & 8191;
+                if (address == ALL_REGISTERS) {
+                    scene.clearRegisters();
+                } else {
+                    scene.put(address, writes[i] & BYTE);
+                }
             }
         }
     }
@@ -792,7 +799,7 @@ public final class Rasterbox {
         }
 
         void clearRegisters() {
-            scene.put(ALL_REGISTERS, 0);
+            scene.clearRegisters();
             present().keep(ALL_REGISTERS, 0);
             Arrays.fill(counts, 0);
         }
@@ -1352,6 +1359,7 @@ public final class Rasterbox {
 
     private static final class Voices {
         static final int COUNT = 3;
+        static final int LOUDEST = 15;
 
         final int[] phases = new int[COUNT];
         final int[] levels = new int[COUNT];
@@ -1393,43 +1401,41 @@ public final class Rasterbox {
         }
 
         void turn(int voice, int pitch) {
-            int v = voice % COUNT;
-            if (v < 0) {
+            if (voice < 0 || voice >= COUNT) {
                 return;
             }
-            int sum = phases[v] + pitch;
-            int noise = noises[v];
-            phases[v] = sum % 65536;
+            int sum = phases[voice] + pitch;
+            int noise = noises[voice];
+            phases[voice] = sum % 65536;
             if (sum > 65535) {
                 boolean isUnlike = (noise & 3) == 1 || (noise & 3) == 2;
-                noises[v] = noise / 2 + (isUnlike ? 16384 : 0);
+                noises[voice] = noise / 2 + (isUnlike ? 16384 : 0);
             }
         }
 
         void swell(int voice, boolean isGateOn, int times) {
-            int v = voice % COUNT;
-            if (v < 0) {
+            if (voice < 0 || voice >= COUNT) {
                 return;
             }
-            waits[v]++;
-            if (waits[v] <= (isGateOn ? times % 16 : times / 16)) {
+            waits[voice]++;
+            if (waits[voice] <= (isGateOn ? times % 16 : times / 16)) {
                 return;
             }
-            waits[v] = 0;
-            if (isGateOn && levels[v] < 15) {
-                levels[v]++;
-            } else if (!isGateOn && levels[v] > 0) {
-                levels[v]--;
+            waits[voice] = 0;
+            if (isGateOn && levels[voice] < LOUDEST) {
+                levels[voice]++;
+            } else if (!isGateOn && levels[voice] > 0) {
+                levels[voice]--;
             }
         }
 
         int outputOf(int voice, int control) {
-            int v = voice % COUNT;
-            if (v < 0) {
+            if (voice < 0 || voice >= COUNT) {
                 return 0;
             }
-            int output = waveOf(control >> 1 & 3, phases[v], noises[v]);
-            boolean isRung = (control & 8) == 8 && phases[(v + 2) % COUNT] >= 32768;
+            int output = waveOf(control >> 1 & 3, phases[voice], noises[voice]);
+            int ahead = voice == 0 ? COUNT - 1 : voice - 1;
+            boolean isRung = (control & 8) == 8 && phases[ahead] >= 32768;
             return isRung ? 15 - output : output;
         }
 
@@ -1640,10 +1646,9 @@ public final class Rasterbox {
         private static final int[] SPECIAL_CYCLES = {
             2, 2, 2, 2, 2, 2, 2, 2, 2, 2, 3, 4, 3, 4, 2, 2,
             2, 2, 2, 2, 2, 2, 2, 2, 2, 2, 7, 6, 6, 3, 6, 5};
-        private static final String OPERATIONS = "ldaldxldystastxstyadcsbcandoraeorcmpcpxcpyincdec"
-                + "laxsaxdcpiscbit";
-        private static final String SPECIALS = "inxdexinydeytaxtxataytyatsxtxsphaplaphpplpsecclcsedcldsei"
-                + "cliclvnopasllsrrolrorbrkrtirtsjmpjsrjmibnebeqbccbcsbplbmibvcbvs";
+        private static final String OPERATIONS = "ldaldxldystastxstyadcsbcandoraeorcmpcpxcpyincdeclaxsaxdcpiscbit";
+        private static final String SPECIALS =
+            "inxdexinydeytaxtxataytyatsxtxsphaplaphpplpsecclcsedcldseicliclvnopasllsrrolrorbrkrtirtsjmpjsrjmibnebeqbccbcsbplbmibvcbvs";
 
         /** -1 for a code without an operation and a mode. */
         static int operationOf(int code) {
