@@ -86,7 +86,7 @@ public final class Rasterbox {
     private int saved;
     /** Null until the first record is started, because its rows are long and seldom wanted. */
     private Recording recording;
-    private final StringBuilder line = new StringBuilder();
+    private final StringBuilder monitorLine = new StringBuilder();
     private final Scene scratch = new Scene();
 
     public Rasterbox() {
@@ -139,13 +139,13 @@ public final class Rasterbox {
 
     public int writeLine(int address) throws IndexOutOfBoundsException {
         checkAddress(address);
-        Monitor.describe(line, machine.board, address);
-        return line.length();
+        Monitor.describe(monitorLine, machine.board, address);
+        return monitorLine.length();
     }
 
     public char lineAt(int index) throws IndexOutOfBoundsException {
-        checkIndex(index, line.length());
-        return line.charAt(index);
+        checkIndex(index, monitorLine.length());
+        return monitorLine.charAt(index);
     }
 
     public int compare(int from, int to, int length) throws IndexOutOfBoundsException, IllegalArgumentException {

@@ -144,6 +144,10 @@ public final class PictureTest {
         return (letter * 3 + u * 5 + v * 2 + letter * u) % 7 < 3 ? 1 : 0;
     }
 
+    private static int letterOf(int cell) {
+        return (cell * 3 + cell / 8) % 8;
+    }
+
     private static void letters() {
         int[] scrolls = {0, 2, 17, 31, 28};
         for (int scroll : scrolls) {
@@ -153,7 +157,7 @@ public final class PictureTest {
             box.poke(LETTERS, 4);
             box.poke(SCROLL, scroll);
             for (int cell = 0; cell < 32; cell++) {
-                box.poke(768 + cell, 100 + cell * cell % 8);
+                box.poke(768 + cell, 100 + letterOf(cell));
             }
             for (int letter = 0; letter < 8; letter++) {
                 for (int v = 0; v < 8; v++) {
@@ -171,7 +175,7 @@ public final class PictureTest {
                     int u = (x + scroll % 4) % 32;
                     int v = (y + scroll / 4) % 32;
                     int cell = 8 * (v / 8) + u / 4;
-                    want[y][x] = letterDot(cell * cell % 8, u % 4, v % 8) == 1 ? 4 : 9;
+                    want[y][x] = letterDot(letterOf(cell), u % 4, v % 8) == 1 ? 4 : 9;
                 }
             }
             compare("letters, scroll " + scroll, box, want);

@@ -109,6 +109,7 @@ public final class ProcessorTest {
         int[] codes = {0, 72, 192};
         for (int code : codes) {
             Rasterbox box = at(600, 0, x, y, 0);
+            box.poke(602, 9);
             for (int i = 0; i < memory.length; i += 2) {
                 box.poke(memory[i], memory[i + 1]);
             }
