@@ -8,6 +8,7 @@ public final class SoundTest {
         sawtooth();
         square();
         noise();
+        edges();
         noWave();
         ring();
         ringOfTheFirst();
@@ -68,21 +69,53 @@ public final class SoundTest {
     }
 
     private static void noise() {
-        Rasterbox box = jammed();
-        voice(box, 2, 32768, 5, 0);
-        box.run(958);
-        int noise = 1;
-        for (int line = 0; line < 40; line++) {
-            if (line % 2 == 1) {
-                int bits = noise % 4;
-                noise = noise / 2 + (bits == 1 || bits == 2 ? 16384 : 0);
+        for (int v = 0; v < 3; v++) {
+            Rasterbox box = jammed();
+            voice(box, v, 32768, 5, 0);
+            box.run(958);
+            box.run(960);
+            int noise = 1;
+            for (int line = 0; line < 80; line++) {
+                if (line % 2 == 1) {
+                    int bits = noise % 4;
+                    noise = noise / 2 + (bits == 1 || bits == 2 ? 16384 : 0);
+                }
+                if (line >= 40) {
+                    Due.is("noise " + v + " " + line, box.sample(line - 40), noise % 16);
+                }
             }
-            Due.is("noise " + line, box.sample(line), noise % 16 * grown(line) / 15);
+            Rasterbox still = jammed();
+            voice(still, v, 1, 5, 0);
+            still.run(958);
+            Due.is("the noise is 1 at first " + v, still.sample(39), 1);
         }
-        Rasterbox still = jammed();
-        voice(still, 2, 1, 5, 0);
-        still.run(958);
-        Due.is("the noise is 1 at first", still.sample(39), 1);
+    }
+
+    /** The first line has the level 1, so that a sample is 1 for what gives 15, and 0 for less. */
+    private static void edges() {
+        int[] pitches = {32767, 32768, 65535};
+        for (int pitch : pitches) {
+            Rasterbox box = jammed();
+            voice(box, 0, pitch, 3, 0);
+            voice(box, 1, 0, 9, 0);
+            box.run(22);
+            Due.is("square and ring, pitch " + pitch, box.sample(0), pitch >= 32768 ? 2 : 0);
+        }
+        Rasterbox high = jammed();
+        voice(high, 0, 65535, 1, 0);
+        high.run(22);
+        Due.is("a phase of 65535", high.sample(0), 1);
+        Rasterbox beyond = jammed();
+        voice(beyond, 0, 65535, 5, 0);
+        beyond.run(22 + 24 * 14);
+        Due.is("14 times beyond 65535 in 15 lines", beyond.sample(14), 2);
+        Rasterbox exact = jammed();
+        voice(exact, 0, 65535, 5, 240);
+        exact.run(22 + 24 * 14);
+        exact.poke(3872, 15);
+        exact.poke(3873, 0);
+        exact.run(24);
+        Due.is("65536 is beyond 65535", exact.sample(15), 1);
     }
 
     private static void noWave() {
