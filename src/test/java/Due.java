@@ -1,12 +1,18 @@
 /** Compares answers with what is due, for every test of the project. */
 final class Due {
     private static int wrong;
+    private static String sentence = "";
 
     private Due() {
     }
 
     interface Call {
         void make();
+    }
+
+    /** Names the sentence of the document by which the answers behind this are due. */
+    static void by(String words) {
+        sentence = words;
     }
 
     static void is(String what, long got, long want) {
@@ -47,7 +53,7 @@ final class Due {
 
     static void tell(String text) {
         wrong++;
-        System.out.println(text);
+        System.out.println(sentence.isEmpty() ? text : text + " [" + sentence + "]");
     }
 
     static void end(String test) {

@@ -563,7 +563,7 @@ public final class PictureTest {
         Rasterbox box = jammed();
         box.poke(MODE, 1);
         box.poke(BACKGROUND, 1);
-        for (int frame = 0; frame < 7; frame++) {
+        for (int frame = 0; frame < 4; frame++) {
             for (int part = 0; part < 10; part++) {
                 box.poke(BACKGROUND, (frame + part) % 16);
                 box.poke(BACKGROUND + 1, (frame * 3 + part * 5) % 16);

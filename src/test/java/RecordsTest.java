@@ -425,7 +425,7 @@ public final class RecordsTest {
         Due.is("same", box.isSame(), true);
         Rasterbox frame = new Rasterbox();
         frame.poke(3841, 3);
-        for (int i = 0; i < 500; i++) {
+        for (int i = 0; i < 499; i++) {
             frame.assemble(3843, 3, 257 + i % 8);
         }
         frame.run(200);
