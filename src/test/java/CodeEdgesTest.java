@@ -61,6 +61,8 @@ public final class CodeEdgesTest {
     /** Does one instruction at 600, and answers the machine. */
     private static Rasterbox did(int code, int operand, int a, int x, int y, int flags) {
         Rasterbox box = Boxes.ready(600, a, x, y, flags);
+        box.poke(601, 9);
+        box.poke(602, 9);
         box.assemble(600, code, operand);
         box.step();
         return box;
@@ -90,6 +92,7 @@ public final class CodeEdgesTest {
 
     private static void reads(String what, int mode, int operand, int cycles, int x, int y, int... memory) {
         Rasterbox box = Boxes.ready(600, 0, x, y, 0);
+        box.poke(602, 9);
         for (int i = 0; i < memory.length; i += 2) {
             box.poke(memory[i], memory[i + 1]);
         }
@@ -605,10 +608,12 @@ public final class CodeEdgesTest {
 
     private static void jumpsThroughMemory() {
         Due.by("159 jmi P becomes the byte there plus 256 times the byte at the next address of the same page, beginning again with its first one, 5");
-        int[][] cases = {{700, 701, 702}, {1022, 1023, 1024}, {1023, 768, 1024}, {255, 0, 256}, {0, 1, 2}, {3839, 3584, 3840}};
+        int[][] cases = {{700, 701, 702}, {1022, 1023, 1024}, {1023, 768, 1024}, {255, 0, 256}, {0, 1, 2}, {3839, 3584, 3840},
+            {3584, 3585, 3328}, {3328, 3329, 3072}};
         for (int[] one : cases) {
             Rasterbox box = Boxes.ready(600, 1, 2, 3, C);
             box.assemble(600, Boxes.code("jmi"), one[0]);
+            box.poke(603, 9);
             box.poke(one[2], 9);
             box.poke(one[0], 5);
             box.poke(one[1], 3);

@@ -35,6 +35,7 @@ public final class PixelEdgesTest {
         againInTheFrame();
         againInTheFrameBefore();
         againAtTheEndOfAFrame();
+        againWithoutWrites();
         againBehindAReset();
         againWhileAProgramWrites();
         sum();
@@ -416,7 +417,10 @@ public final class PixelEdgesTest {
         Due.is("the lowest is behind, the next one is not seen instead", stacked(3, 1, 1).pixel(0, 0), 4);
         Due.is("the next one is behind", stacked(3, 2, 1).pixel(0, 0), 11);
         Due.is("the lowest that covers counts", stacked(6, 1, 1).pixel(0, 0), 12);
-        Due.is("the highest is behind", stacked(8, 8, 1).pixel(0, 0), 4);
+        for (int n = 0; n < 4; n++) {
+            Due.is("its own bit " + n, stacked(1 << n, 1 << n, 1).pixel(0, 0), 4);
+            Due.is("the bits of the others " + n, stacked(1 << n, 15 - (1 << n), 1).pixel(0, 0), 11 + n);
+        }
     }
 
     private static void twoOrMore() {
@@ -584,6 +588,23 @@ public final class PixelEdgesTest {
             Boxes.runTo(box, 960 + 101);
             Due.is("drawn behind it, by " + cycle, box.pixelAgain(0, 0), 2);
             Due.is("the last one, by " + cycle, box.pixelAgain(31, 31), 9);
+        }
+    }
+
+    private static void againWithoutWrites() {
+        Due.by("found from what RAM and registers were at the beginning of the frame in which it was drawn last");
+        Rasterbox box = new Rasterbox();
+        box.poke(Boxes.BACKGROUND, 1);
+        box.poke(Boxes.MODE, 3);
+        box.poke(0, Boxes.code("jam"));
+        for (int frame = 0; frame < 6; frame++) {
+            Boxes.runTo(box, 960 * frame + 200);
+            if (frame < 4) {
+                box.poke(Boxes.BACKGROUND, frame + 2);
+            }
+            Boxes.runTo(box, 960 * (frame + 1));
+            Due.is("the upper part of the frame " + frame, box.pixelAgain(0, 0), frame < 4 ? frame + 1 : 5);
+            Due.is("the lower part of the frame " + frame, box.pixelAgain(31, 31), frame < 4 ? frame + 2 : 5);
         }
     }
 

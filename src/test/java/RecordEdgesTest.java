@@ -13,6 +13,10 @@ public final class RecordEdgesTest {
         withoutRecords();
         restoredAll();
         restoredFrames();
+        restoredInterrupt();
+        restoredVoice();
+        restoredTape();
+        restoredKeys();
         restoredFromNew();
         restoredTwice();
         restoreReturns();
@@ -125,6 +129,8 @@ public final class RecordEdgesTest {
         box.assemble(0, Boxes.code("cli"), 0);
         box.assemble(1, Boxes.code("jmp"), 3000);
         box.poke(Boxes.MASK, 4);
+        box.setRegister(Boxes.X, 21);
+        box.setRegister(Boxes.Y, 22);
         box.run(611);
         box.run(700);
         for (int i = 0; i < 9 && box.underWay() != 2; i++) {
@@ -203,6 +209,96 @@ public final class RecordEdgesTest {
                 box.run(400);
             }
         }
+    }
+
+    private static void restoredInterrupt() {
+        Due.by("Makes the machine as it is in a snapshot.");
+        Rasterbox box = Boxes.ready(600, 0, 0, 0, 0);
+        box.poke(600, Boxes.code("nop"));
+        box.poke(3839, 4);
+        box.poke(Boxes.MASK, 1);
+        box.run(3);
+        box.save();
+        box.poke(Boxes.MASK, 0);
+        box.reset();
+        box.setRegister(Boxes.P, 600);
+        box.run(1);
+        box.restore(0);
+        Due.is("cycles that are left", box.step(), 4);
+        Due.is("it is the interrupt", box.register(Boxes.P), 1024);
+        Due.is("which has pushed P", box.ram(511) * 256 + box.ram(510), 600);
+    }
+
+    private static void restoredVoice() {
+        Due.by("Makes the machine as it is in a snapshot.");
+        Rasterbox box = Boxes.jammed();
+        box.poke(Boxes.VOICES + 1, 240);
+        box.poke(Boxes.VOICES + 2, 1);
+        box.poke(Boxes.VOICES + 3, 4);
+        Boxes.runTo(box, 24 * 7);
+        box.save();
+        Boxes.runTo(box, 24 * 9);
+        Due.is("later", box.level(0), 1);
+        box.restore(0);
+        Boxes.runTo(box, 24 * 9);
+        Due.is("the wait, ahead of the end", box.level(0), 1);
+        Boxes.runTo(box, 24 * 10);
+        Due.is("the wait", box.level(0), 2);
+        box.poke(Boxes.VOICES + 2, 5);
+        Boxes.runTo(box, 24 * 15);
+        box.restore(0);
+        box.poke(Boxes.VOICES + 3, 0);
+        box.poke(Boxes.VOICES + 2, 5);
+        box.poke(Boxes.VOICES + 1, 0);
+        Boxes.runTo(box, 24 * 22);
+        // Seven times 61440 have gone beyond 65535 six times, which made the noise 512; six times more make it 8.
+        box.poke(Boxes.VOICES + 1, 240);
+        Boxes.runTo(box, 24 * 28);
+        Due.is("the noise", box.sample(27), 8);
+    }
+
+    private static void restoredTape() {
+        Due.by("Makes the machine as it is in a snapshot.");
+        Rasterbox box = Boxes.jammed();
+        box.save();
+        box.addPulse(1);
+        box.addPulse(10);
+        box.poke(Boxes.MOTOR, 1);
+        box.run(5);
+        box.save();
+        box.restore(0);
+        box.addPulse(3);
+        box.addPulse(4);
+        box.restore(1);
+        Due.is("the level, the motor and what is left", box.peek(Boxes.MOTOR), 7);
+        box.run(6);
+        Due.is("all are over", box.peek(Boxes.MOTOR), 1);
+        box.restore(1);
+        Due.is("the level is as it was", box.peek(Boxes.MOTOR), 7);
+        box.run(5);
+        Due.is("4 and 5 of 10", box.pulsesLeft(), 1);
+        box.run(1);
+        Due.is("10 of 10", box.pulsesLeft(), 0);
+        Due.is("the level is back", box.peek(Boxes.MOTOR), 1);
+        box.restore(0);
+        Due.is("no tape", box.peek(Boxes.MOTOR) + box.rewind(), 0);
+    }
+
+    private static void restoredKeys() {
+        Due.by("Makes the machine as it is in a snapshot.");
+        Rasterbox box = new Rasterbox();
+        box.key(0, 0, true);
+        box.joystick(9);
+        box.save();
+        box.key(0, 0, false);
+        box.key(1, 1, true);
+        box.joystick(6);
+        box.restore(0);
+        Due.is("pressed", box.columns(1), 1);
+        Due.is("not pressed", box.key(1, 1, false), false);
+        Due.is("pressed, as before", box.key(0, 0, true), true);
+        Due.is("pressed still", box.columns(1), 1);
+        Due.is("the joystick", box.joystick(0), 9);
     }
 
     private static void restoredFromNew() {
@@ -331,12 +427,15 @@ public final class RecordEdgesTest {
         box.startRecord();
         box.poke(700, 1);
         box.poke(701, 1);
+        Due.is("the earlier one is played", box.isSame(), true);
         box.startRecord();
         Due.is("kept", box.recorded(), 0);
-        Due.is("from what is now", box.isSame(), true);
         box.poke(700, 2);
         Due.is("kept then", box.recorded(), 1);
         Due.is("and the same", box.isSame(), true);
+        box.startRecord();
+        Due.is("from what is now", box.isSame(), true);
+        Due.is("nothing is kept", box.recorded(), 0);
     }
 
     /** Makes the call of a number, which a record keeps. */

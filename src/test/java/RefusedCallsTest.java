@@ -67,6 +67,15 @@ public final class RefusedCallsTest {
         return box;
     }
 
+    private static Rasterbox busyAndJammed() {
+        Rasterbox box = busy();
+        box.poke(600, Boxes.code("jam"));
+        box.poke(602, Boxes.code("jam"));
+        box.run(30);
+        Due.is("jammed", box.isJammed(), true);
+        return box;
+    }
+
     /** All that can be seen of a machine, also some time later. */
     private static String seen(Rasterbox box) {
         StringBuilder text = new StringBuilder();
@@ -211,15 +220,18 @@ public final class RefusedCallsTest {
             refused("setRegister " + n + " under way", STATE, box -> box.setRegister(number, 7));
         }
         refused("addPulse, 40 pulses", STATE, box -> box.addPulse(1));
-        Rasterbox box = Boxes.jammed();
+        Rasterbox box = busyAndJammed();
         Due.fails("step, jammed", STATE, box::step);
-        Due.is("no cycle has passed", box.cycle(), 2);
-        Due.is("nothing is done", box.done(), 1);
+        Due.is("behind step", seen(box), seen(busyAndJammed()));
         Rasterbox none = busy();
         none.restore(0);
         Due.fails("recorded, no record", STATE, none::recorded);
         Due.fails("isSame, no record", STATE, none::isSame);
         Due.is("no record was started", none.startRecord(), 0);
+        Rasterbox untouched = busy();
+        untouched.restore(0);
+        untouched.startRecord();
+        Due.is("behind recorded and isSame", seen(none), seen(untouched));
         Rasterbox full = busy();
         full.save();
         Due.fails("save, 3 snapshots", STATE, full::save);

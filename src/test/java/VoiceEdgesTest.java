@@ -166,7 +166,7 @@ public final class VoiceEdgesTest {
         Due.by("the noise becomes itself divided by 2 and rounded down, plus 16384 if its lowest two bits were different");
         int[] behind = {
             1, 16384, 8192, 4096, 2048, 1024, 512, 256, 128, 64, 32, 16, 8, 4, 2, 16385, 24576, 12288, 6144, 3072, 1536, 768,
-            384, 192, 96, 48, 24, 12, 6, 16387, 8193, 20480, 10240};
+            384, 192, 96, 48, 24, 12, 6, 16387, 8193, 20480, 10240, 5120, 2560, 1280, 640, 320, 160, 80, 40, 20, 10, 16389, 24578};
         for (int v = 0; v < 3; v++) {
             Rasterbox box = loud(v);
             set(box, v, 65535, 5, 0);
