@@ -22,6 +22,7 @@ public final class ProcessorEdgesTest {
         bytesOfTheLastCycle();
         interruptThatIsUnderWay();
         interruptPushes();
+        flagsBehindInterrupts();
         interruptPushesRound();
         vectors();
         codesOverHits();
@@ -36,6 +37,7 @@ public final class ProcessorEdgesTest {
         resetOfWhatIsPending();
         resetVector();
         resetKeeps();
+        resetKeepsVoices();
         freezeBits();
         doneCounts();
         jammed();
@@ -329,6 +331,19 @@ public final class ProcessorEdgesTest {
         Due.is("i was set", masked.ram(509), 32 + Boxes.I);
     }
 
+    private static void flagsBehindInterrupts() {
+        Due.by("otherwise, if a flag is set whose bit in the mask is 1, and i is not set");
+        Rasterbox box = flagged(15, 1, 0);
+        box.poke(512, Boxes.code("rti"));
+        box.step();
+        Due.is("an interrupt clears no flag", box.peek(Boxes.FLAGS), 15);
+        Due.is("rti", box.step(), 6);
+        Due.is("the flag asks again", box.step(), 7);
+        box.poke(512, Boxes.code("cli"));
+        box.step();
+        Due.is("and again, when i is cleared", box.step(), 7);
+    }
+
     private static void interruptPushesRound() {
         Due.by("S is 1 less, modulo 256");
         int[][] cases = {{0, 256, 511, 510, 253}, {1, 257, 256, 511, 254}, {2, 258, 257, 256, 255}};
@@ -604,6 +619,34 @@ public final class ProcessorEdgesTest {
         Due.is("the level of the tape", tape.peek(Boxes.MOTOR), 2);
     }
 
+    private static void resetKeepsVoices() {
+        Due.by("Memory, keys, the joystick, the tape, voices, the picture and the cycle stay.");
+        Rasterbox wait = Boxes.jammed();
+        wait.poke(Boxes.VOICES + 2, 1);
+        wait.poke(Boxes.VOICES + 3, 9);
+        Boxes.runTo(wait, 24 * 4);
+        wait.reset();
+        wait.poke(Boxes.VOICES + 2, 1);
+        wait.poke(Boxes.VOICES + 3, 4);
+        wait.run(24);
+        Due.is("a wait of 4 becomes 5, which is greater than 4", wait.level(0), 1);
+        Rasterbox noise = Boxes.jammed();
+        noise.poke(Boxes.VOICES + 1, 240);
+        noise.poke(Boxes.VOICES + 2, 5);
+        Boxes.runTo(noise, 24 * 13);
+        noise.reset();
+        noise.poke(Boxes.VOICES + 2, 5);
+        noise.run(24);
+        // Thirteen times 61440 have gone beyond 65535 twelve times, which made the noise 8; the level is 14 now.
+        Due.is("the noise", noise.sample(13), 8 * 14 / 15);
+        Rasterbox samples = Boxes.jammed();
+        samples.poke(Boxes.VOICES + 1, 240);
+        samples.poke(Boxes.VOICES + 2, 1);
+        Boxes.runTo(samples, 24 * 3);
+        samples.reset();
+        Due.is("samples", samples.sample(2), 13 * 3 / 15);
+    }
+
     private static void freezeBits() {
         Due.by("a freeze is pending, and bits 1 to 3 of the register 0 are set");
         for (int banks = 0; banks < 16; banks++) {
@@ -687,6 +730,9 @@ public final class ProcessorEdgesTest {
         for (int none : new int[] {-1, 16, 17, Integer.MIN_VALUE, Integer.MAX_VALUE}) {
             Due.fails("trace " + none, INDEX, () -> box.traceAt(none));
         }
+        box.reset();
+        Due.is("behind a reset, the latest", box.traceAt(0), 11);
+        Due.is("behind a reset, the earliest", box.traceAt(15), 4092);
     }
 
     private static void traceWithoutInterrupts() {

@@ -372,6 +372,8 @@ public final class TimeEdgesTest {
             box.poke(Boxes.DOUBLED, 12);
             Due.is("with sprites, mode " + mode, box.run(960), frames[mode] + 8 + 8 + 16 + 16);
             Due.is("pictures, mode " + mode, box.pictures(), 2 * frames[mode] + 48);
+            box.reset();
+            Due.is("behind a reset, mode " + mode, box.pictures(), 2 * frames[mode] + 48);
         }
     }
 
