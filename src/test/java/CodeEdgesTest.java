@@ -21,6 +21,7 @@ public final class CodeEdgesTest {
         modeSeven();
         pageCycles();
         cyclesOfWriters();
+        cyclesOfChanges();
         writersOfModeNone();
         setZeroAndNegative();
         loadsAndLogic();
@@ -37,6 +38,7 @@ public final class CodeEdgesTest {
         subtract();
         addDecimal();
         subtractDecimal();
+        decimalModulo();
         othersInDecimal();
         cyclesOfOneByte();
         countsOfXAndY();
@@ -44,6 +46,7 @@ public final class CodeEdgesTest {
         pushesAndPulls();
         flagCodes();
         shifts();
+        shiftsModulo();
         breaks();
         returnsFromInterrupts();
         returnsFromSubroutines();
@@ -182,16 +185,26 @@ public final class CodeEdgesTest {
     private static void cyclesOfWriters() {
         Due.by("it is 1 cycle more if the page of the address is another one than without X or Y, or the operation writes");
         int[] stores = {2, 3, 4, 4, 5, 5, 6, 6};
-        String[] names = {"sta", "stx", "sty", "sax", "inc", "dec", "dcp", "isc"};
-        for (int i = 0; i < names.length; i++) {
+        String[] names = {"sta", "stx", "sty", "sax"};
+        cyclesOf(names, stores);
+    }
+
+    private static void cyclesOfChanges() {
+        Due.by("3, 4, 5, 14, 15, 17, 18, 19 write; 14, 15, 18, 19 take 2 cycles more.");
+        int[] changes = {2, 5, 6, 6, 7, 7, 8, 8};
+        String[] names = {"inc", "dec", "dcp", "isc"};
+        cyclesOf(names, changes);
+    }
+
+    private static void cyclesOf(String[] names, int[] cycles) {
+        for (String name : names) {
             for (int mode = 0; mode < 8; mode++) {
                 for (int index : new int[] {1, 255}) {
                     Rasterbox box = Boxes.ready(600, 0, index, index, 0);
                     box.poke(40, 16);
                     box.poke(41, 4);
-                    box.assemble(600, Boxes.code(names[i]) + mode, mode >= 3 && mode < 6 ? 1040 : 40);
-                    int due = stores[mode] + (mode > 0 && i >= 4 ? 2 : 0);
-                    Due.is(names[i] + " in mode " + mode + " by " + index, box.step(), due);
+                    box.assemble(600, Boxes.code(name) + mode, mode >= 3 && mode < 6 ? 1040 : 40);
+                    Due.is(name + " in mode " + mode + " by " + index, box.step(), cycles[mode]);
                 }
             }
         }
@@ -377,9 +390,16 @@ public final class CodeEdgesTest {
             {0x00, 0x00, 0, 0x00, Z}, {0x04, 0x05, 0, 0x09, 0}, {0x05, 0x05, 0, 0x10, 0}, {0x04, 0x05, 1, 0x10, 0},
             {0x09, 0x09, 1, 0x19, 0}, {0x90, 0x09, 0, 0x99, N}, {0x90, 0x09, 1, 0x00, C | Z}, {0x50, 0x49, 0, 0x99, N | V},
             {0x50, 0x50, 0, 0x00, C | Z | V}, {0x99, 0x99, 1, 0x99, C | N | V}, {0x99, 0x01, 0, 0x00, C | Z}}, D);
+    }
+
+    private static void decimalModulo() {
+        Due.by("A becomes 16 * high + low, modulo 256");
         adds("adc", new int[][] {
             {0x0F, 0x0F, 1, 0x25, 0}, {0xF0, 0xF0, 0, 0x40, C}, {0xFF, 0xFF, 1, 0x65, C}, {0x0A, 0x00, 0, 0x10, 0},
             {0xA0, 0x00, 0, 0x00, C | Z}, {0x9A, 0x00, 0, 0x00, C | Z}, {0x0F, 0x05, 0, 0x1A, 0}, {0xFF, 0x00, 0, 0x65, C}}, D);
+        adds("sbc", new int[][] {
+            {0x00, 0x0F, 0, 0x8A, N}, {0x00, 0xF0, 1, 0xB0, N}, {0x00, 0xFF, 0, 0x9A, N}, {0x0F, 0x00, 1, 0x0F, C},
+            {0xFF, 0x00, 1, 0xFF, C | N}, {0x00, 0x0A, 1, 0x90, N}}, D);
     }
 
     private static void subtractDecimal() {
@@ -388,9 +408,6 @@ public final class CodeEdgesTest {
             {0x00, 0x00, 1, 0x00, C | Z}, {0x00, 0x00, 0, 0x99, N}, {0x00, 0x01, 1, 0x99, N}, {0x10, 0x00, 0, 0x09, C},
             {0x10, 0x01, 1, 0x09, C}, {0x10, 0x10, 1, 0x00, C | Z}, {0x10, 0x20, 1, 0x90, N}, {0x99, 0x99, 1, 0x00, C | Z},
             {0x99, 0x99, 0, 0x99, N}, {0x80, 0x01, 1, 0x79, C | V}, {0x50, 0x49, 0, 0x00, C | Z}}, D);
-        adds("sbc", new int[][] {
-            {0x00, 0x0F, 0, 0x8A, N}, {0x00, 0xF0, 1, 0xB0, N}, {0x00, 0xFF, 0, 0x9A, N}, {0x0F, 0x00, 1, 0x0F, C},
-            {0xFF, 0x00, 1, 0xFF, C | N}, {0x00, 0x0A, 1, 0x90, N}}, D);
     }
 
     private static void othersInDecimal() {
@@ -504,6 +521,17 @@ public final class CodeEdgesTest {
                 shows(what, did(one[0], 0, one[1], 9, 9, one[2] | before), one[3], 9, 9, one[4] | before & V);
             }
         }
+    }
+
+    private static void shiftsModulo() {
+        Due.by("each shift modulo 256");
+        for (int code : new int[] {Boxes.code("asl"), Boxes.code("rol")}) {
+            shows("128 by " + code, did(code, 0, 128, 9, 9, 0), 0, 9, 9, Z | C);
+            shows("255 by " + code, did(code, 0, 255, 9, 9, 0), 254, 9, 9, N | C);
+            shows("129 by " + code, did(code, 0, 129, 9, 9, 0), 2, 9, 9, C);
+        }
+        shows("255 and c by ror", did(Boxes.code("ror"), 0, 255, 9, 9, C), 255, 9, 9, N | C);
+        shows("255 and c by rol", did(Boxes.code("rol"), 0, 255, 9, 9, C), 255, 9, 9, N | C);
     }
 
     private static void breaks() {

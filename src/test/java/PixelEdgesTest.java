@@ -11,6 +11,7 @@ public final class PixelEdgesTest {
         linesOfDrawing();
         moduloLeft();
         moduloUpwards();
+        pagesOfScreenAndLetters();
         cellsOfLetters();
         dotsOfLetters();
         bitsOfModeOne();
@@ -135,6 +136,29 @@ public final class PixelEdgesTest {
             frame(box);
             Due.is("v " + one[1] + " by " + one[0], box.pixel(0, one[2]), 4);
             Due.is("it alone, v " + one[1] + " by " + one[0], others(box), 1);
+        }
+    }
+
+    private static void pagesOfScreenAndLetters() {
+        Due.by("let the screen be 256 times its page, the letters 256 times theirs");
+        for (int page : new int[] {0, 1, 14, 15}) {
+            Rasterbox screen = painter(1);
+            screen.poke(Boxes.SCREEN, page);
+            screen.poke(256 * page + 127, 1);
+            screen.poke(256 * page + 128 + 31, 128);
+            screen.poke(Boxes.SPRITES_ON, 8);
+            screen.poke(Boxes.SPRITE_COLOUR, 3);
+            frame(screen);
+            Due.is("the last byte of the screen " + page, screen.pixel(31, 31), 4);
+            Due.is("the last byte of the sprites of " + page, screen.pixel(0, 7), 6);
+            Due.is("no others of " + page, others(screen), 2);
+            Rasterbox letters = painter(0);
+            letters.poke(Boxes.LETTERS, page);
+            letters.poke(512, 31);
+            letters.poke(256 * page + 255, 8);
+            frame(letters);
+            Due.is("the last byte of the letter 31 of " + page, letters.pixel(0, 7), 4);
+            Due.is("no others by the letters " + page, others(letters), 1);
         }
     }
 
