@@ -81,28 +81,31 @@ public final class Rasterbox {
     private static final int ADD_PULSE = 11;
     private static final int REWIND = 12;
 
+    // All rows are made with the object and used again, because what a call makes counts for each of 512 calls.
     private final Machine machine = new Machine();
     private final Machine[] snapshots = new Machine[MOST_SNAPSHOTS];
     private int saved;
-    /** Null until the first record is started, because its rows are long and seldom wanted. */
-    private Recording recording;
+    private final Recording recording = new Recording();
     private final StringBuilder monitorLine = new StringBuilder();
     private final Scene scratch = new Scene();
 
     public Rasterbox() {
+        for (int i = 0; i < MOST_SNAPSHOTS; i++) {
+            snapshots[i] = new Machine();
+        }
     }
 
     public int poke(int address, int value) throws IndexOutOfBoundsException, IllegalArgumentException {
         checkAddress(address);
         checkByte(value);
-        keepCall(POKE, address, value, 0);
+        recording.keep(POKE, address, value, 0);
         return machine.perform(POKE, address, value, 0);
     }
 
     public int pokeRom(int index, int value) throws IndexOutOfBoundsException, IllegalArgumentException {
         checkIndex(index, BANK_SIZE);
         checkByte(value);
-        keepCall(POKE_ROM, index, value, 0);
+        recording.keep(POKE_ROM, index, value, 0);
         return machine.perform(POKE_ROM, index, value, 0);
     }
 
@@ -111,7 +114,7 @@ public final class Rasterbox {
         checkIndex(bank, BANKS_OF_CARTRIDGE);
         checkIndex(index, BANK_SIZE);
         checkByte(value);
-        keepCall(POKE_CARTRIDGE, bank, index, value);
+        recording.keep(POKE_CARTRIDGE, bank, index, value);
         return machine.perform(POKE_CARTRIDGE, bank, index, value);
     }
 
@@ -133,7 +136,7 @@ public final class Rasterbox {
         if (Codes.lengthOf(code) == 2) {
             checkByte(operand);
         }
-        keepCall(ASSEMBLE, address, code, operand);
+        recording.keep(ASSEMBLE, address, code, operand);
         return machine.perform(ASSEMBLE, address, code, operand);
     }
 
@@ -174,7 +177,7 @@ public final class Rasterbox {
         if (machine.processor.left > 0) {
             throw new IllegalStateException("an instruction or an interrupt is under way");
         }
-        keepCall(SET_REGISTER, number, value, 0);
+        recording.keep(SET_REGISTER, number, value, 0);
         return machine.perform(SET_REGISTER, number, value, 0);
     }
 
@@ -183,18 +186,18 @@ public final class Rasterbox {
     }
 
     public int reset() {
-        keepCall(RESET, 0, 0, 0);
+        recording.keep(RESET, 0, 0, 0);
         return machine.perform(RESET, 0, 0, 0);
     }
 
     public int freeze() {
-        keepCall(FREEZE, 0, 0, 0);
+        recording.keep(FREEZE, 0, 0, 0);
         return machine.perform(FREEZE, 0, 0, 0);
     }
 
     public int run(int cycles) throws IllegalArgumentException {
         checkArgument(cycles, 1, LONGEST_RUN);
-        keepCall(RUN, cycles, 0, 0);
+        recording.keep(RUN, cycles, 0, 0);
         return machine.perform(RUN, cycles, 0, 0);
     }
 
@@ -202,7 +205,7 @@ public final class Rasterbox {
         if (machine.processor.isJammed) {
             throw new IllegalStateException("the processor is jammed");
         }
-        keepCall(STEP, 0, 0, 0);
+        recording.keep(STEP, 0, 0, 0);
         return machine.perform(STEP, 0, 0, 0);
     }
 
@@ -258,7 +261,7 @@ public final class Rasterbox {
         checkIndex(row, Keys.ROWS);
         checkIndex(column, Keys.ROWS);
         int down = isDown ? 1 : 0;
-        keepCall(KEY, row, column, down);
+        recording.keep(KEY, row, column, down);
         return machine.perform(KEY, row, column, down) == 1;
     }
 
@@ -269,7 +272,7 @@ public final class Rasterbox {
 
     public int joystick(int bits) throws IllegalArgumentException {
         checkArgument(bits, 0, Keys.ALL);
-        keepCall(JOYSTICK, bits, 0, 0);
+        recording.keep(JOYSTICK, bits, 0, 0);
         return machine.perform(JOYSTICK, bits, 0, 0);
     }
 
@@ -278,12 +281,12 @@ public final class Rasterbox {
         if (machine.board.tape.count >= MOST_PULSES) {
             throw new IllegalStateException("the tape is full");
         }
-        keepCall(ADD_PULSE, length, 0, 0);
+        recording.keep(ADD_PULSE, length, 0, 0);
         return machine.perform(ADD_PULSE, length, 0, 0);
     }
 
     public int rewind() {
-        keepCall(REWIND, 0, 0, 0);
+        recording.keep(REWIND, 0, 0, 0);
         return machine.perform(REWIND, 0, 0, 0);
     }
 
@@ -296,9 +299,7 @@ public final class Rasterbox {
         if (number < 0 || number >= MOST_SNAPSHOTS) {
             throw new IllegalStateException("there are 3 snapshots");
         }
-        Machine snapshot = new Machine();
-        snapshot.become(machine);
-        snapshots[number] = snapshot;
+        snapshots[number].become(machine);
         saved = number + 1;
         return number;
     }
@@ -310,9 +311,7 @@ public final class Rasterbox {
         }
         int changed = machine.board.scene.bytesUnlike(wanted.board.scene);
         machine.become(wanted);
-        if (recording != null) {
-            recording.isOn = false;
-        }
+        recording.isOn = false;
         return changed;
     }
 
@@ -325,18 +324,13 @@ public final class Rasterbox {
     }
 
     public int startRecord() {
-        Recording started = recording;
-        if (started == null) {
-            started = new Recording();
-            recording = started;
-        }
-        int earlier = started.isOn ? started.count : 0;
-        started.begin(machine);
+        int earlier = recording.isOn ? recording.count : 0;
+        recording.begin(machine);
         return earlier;
     }
 
     public int recorded() throws IllegalStateException {
-        if (recording == null || !recording.isOn) {
+        if (!recording.isOn) {
             throw new IllegalStateException("there is no record");
         }
         return recording.count;
@@ -344,7 +338,7 @@ public final class Rasterbox {
 
     public boolean isSame() throws IllegalStateException {
         Recording played = recording;
-        if (played == null || !played.isOn) {
+        if (!played.isOn) {
             throw new IllegalStateException("there is no record");
         }
         // What was played before need not be played again: the same calls lead to the same machine.
@@ -407,14 +401,8 @@ public final class Rasterbox {
         }
     }
 
-    private void keepCall(int kind, int first, int second, int third) {
-        if (recording != null) {
-            recording.keep(kind, first, second, third);
-        }
-    }
-
     private Machine snapshotOf(int number) {
-        return number >= 0 && number < MOST_SNAPSHOTS ? snapshots[number] : null;
+        return number >= 0 && number < saved && number < MOST_SNAPSHOTS ? snapshots[number] : null;
     }
 
     /** All that a snapshot keeps. */
